@@ -41,7 +41,8 @@ public final class DataTest {
         Checks.dueValue("8: its own was not set", x, 1, 6);
     }
 
-    private static void promise8BytesOfAFormal() {
+    /** Formal size - 1, told by -size, is the lowest size bytes of the external cell 0. */
+    private static CallRows runningWithAFormalOfEachSize() {
         CallRows x = new CallRows(4);
         x.program(0, 1, 0);
         x.shared(0);
@@ -53,6 +54,11 @@ public final class DataTest {
             x.actual(0, 0);
         }
         x.enter();
+        return x;
+    }
+
+    private static void promise8BytesOfAFormal() {
+        CallRows x = runningWithAFormalOfEachSize();
         for (int size = 1; size <= 8; size++) {
             x.set(0, 0x0102030405060708L);
             x.set(-size, -1);
@@ -117,17 +123,7 @@ public final class DataTest {
     }
 
     private static void promise10SignOfAFormal() {
-        CallRows x = new CallRows(4);
-        x.program(0, 1, 0);
-        x.shared(0);
-        for (int size = 1; size <= 8; size++) {
-            x.formal(1, 0, size);
-        }
-        x.call(0, 1);
-        for (int size = 1; size <= 8; size++) {
-            x.actual(0, 0);
-        }
-        x.enter();
+        CallRows x = runningWithAFormalOfEachSize();
         for (int size = 1; size <= 8; size++) {
             long half = 1L << (8 * size - 1);
             x.set(0, half);
@@ -151,7 +147,7 @@ public final class DataTest {
         }
         Checks.goInto(x, 1, 1);
         Checks.goInto(x, 2, 2);
-        Checks.dueThrow("8: a global one that lies in it", x, 2);
+        Checks.dueThrow("10: a global one that lies in it, from outside", x, 2);
         Checks.goInto(x, 3, 3);
         Checks.dueValue("10: a global one around, at depth 2", x, 0, 10);
         Checks.dueThrow("10: one around that is not global", x, 1);
