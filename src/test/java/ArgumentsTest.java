@@ -360,13 +360,13 @@ public final class ArgumentsTest {
         Checks.due("the second has less", x.enter(), -8);
         x.call(1, 2);
         x.actual(-1, 0);
-        x.actual(0, 0);
-        Checks.due("each has enough", x.enter(), 1);
+        x.actual(-1, 2);
+        Checks.due("the second is omitted", x.enter(), 1);
         x.leave(0);
         x.call(1, 2);
         x.actual(-1, 0);
-        x.actual(-1, 2);
-        Checks.due("the second is omitted", x.enter(), 1);
+        x.actual(0, 0);
+        Checks.due("each has enough", x.enter(), 1);
     }
 
     // A formal may have become another program's: its bytes are those of the formal that was told.
