@@ -167,7 +167,7 @@ public final class CallRows {
         if (!bytesSuffice(level, callee)) {
             return TOO_FEW_BYTES;
         }
-        copyValues(level, callee);
+        makeFormals(level, callee);
         level.earlier = callee.latest;
         callee.latest = level;
         top = level;
@@ -352,8 +352,7 @@ public final class CallRows {
     private Level holderOf(int cell) {
         Program running = top.program;
         if (cell < 0) {
-            int formal = -1 - cell;
-            return running != null && formal < running.formals ? top.holders[formal] : null;
+            return isFormal(cell) ? top.holders[-1 - cell] : null;
         }
         if (cell >= cellCount) {
             return null;
@@ -369,14 +368,19 @@ public final class CallRows {
         return running == owner || (owner.has(GLOBAL) && running.isOrLiesIn(owner));
     }
 
+    /** Whether the number tells a formal of the running program, be it omitted or not. */
+    private boolean isFormal(int cell) {
+        Program running = top.program;
+        return running != null && cell < 0 && -1 - cell < running.formals;
+    }
+
     /** Where the holder of a visible cell or formal has its value. */
     private int placeOf(int cell) {
-        return cell < 0 ? top.places[-1 - cell] : MOST_FORMALS + cell;
+        return isFormal(cell) ? top.places[-1 - cell] : MOST_FORMALS + cell;
     }
 
     private int bytesOf(int cell) {
-        Program running = top.program;
-        return cell < 0 && running != null ? running.formalBytes[-1 - cell] : CELL_BYTES;
+        return isFormal(cell) ? top.bytes[-1 - cell] : CELL_BYTES;
     }
 
     private int unusedBits(int cell) {
@@ -418,8 +422,9 @@ public final class CallRows {
         return true;
     }
 
-    private static void copyValues(Level level, Program callee) {
+    private static void makeFormals(Level level, Program callee) {
         for (int i = 0; i < callee.formals; i++) {
+            level.bytes[i] = callee.formalBytes[i];
             if ((callee.formalHow[i] & BY_VALUE) != 0) {
                 level.copy(i);
             }
@@ -499,7 +504,8 @@ public final class CallRows {
         // The level of the same program's active call before this one; null when there is none.
         Level earlier;
         int arguments;
-        // Where each argument, and then its formal, has its bytes; no holder when it is omitted.
+        // Where each argument, and then its formal, has its bytes, and how many; no holder when it is
+        // omitted.
         final Level[] holders = new Level[MOST_FORMALS];
         final int[] places = new int[MOST_FORMALS];
         final int[] bytes = new int[MOST_FORMALS];
