@@ -40,6 +40,21 @@ public final class CallTest {
         }
     }
 
+    // Free is what they answer, not that they answer at all; AnyUseTest goes further.
+    @Sentence(in = "What it is", says = "what later calls answer is free.")
+    private static void laterCallsAnswerAnything() {
+        CallRows x = new CallRows(65536);
+        x.program(0, 1, Checks.RECURSIVE);
+        for (int i = 0; i < 1000; i++) {
+            x.call(x.count(3), 1);
+            x.enter();
+        }
+        for (int i = 0; i < 1000; i++) {
+            x.set(0, 1);
+            x.leave(0);
+        }
+    }
+
     @Sentence(in = "Promise 5", says = "The running program (from; 0 without one) calls a name: "
         + "the program that it is")
     private static void callAnswersTheProgram() {

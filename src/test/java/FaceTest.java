@@ -59,6 +59,7 @@ public final class FaceTest {
         for (String one : seen) {
             Checks.due("the face alone has " + one, due.contains(one) ? 1 : 0, 1);
         }
+        Checks.due("NONE", CallRows.NONE, -1);
         Checks.end();
     }
 }

@@ -8,7 +8,8 @@ import java.util.List;
 /** Runs the tests of a class, each of which says the sentence that it belongs to. */
 final class Sentences {
     static final Class<?>[] TESTS = {TermsTest.class, NamesTest.class, RefusalOrderTest.class,
-        DeclarationTest.class, CallTest.class, ArgumentsTest.class, DataTest.class, CancelTest.class};
+        DeclarationTest.class, CallTest.class, ArgumentsTest.class, DataTest.class, CancelTest.class,
+        ReadmeTest.class};
 
     private Sentences() {
     }

@@ -9,7 +9,8 @@ import java.util.Map;
 
 /**
  * That no sentence is without a test: each test's sentence stands in the document where the test says,
- * and together they are all the words under "Terms" and under the promises.
+ * and together they are all the words under "What it is", "Terms" and the promises. (FaceTest and
+ * ReadmeTest are on "The public face"; "Not promised" asks for nothing that a test could miss.)
  */
 public final class SentencesTest {
     private static final String DOCUMENT = "../shared/DOC.md";
@@ -31,6 +32,7 @@ public final class SentencesTest {
             }
             dueAllSaySentences(tests);
         }
+        dueAllTold("What it is", texts, told);
         dueAllTold("Terms", texts, told);
         for (int promise = 1; promise <= 15; promise++) {
             dueAllTold("Promise " + promise, texts, told);
